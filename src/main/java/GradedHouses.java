@@ -46,6 +46,8 @@ public final class GradedHouses {
     private final Order order = new Order();
     private final Work[] works = new Work[MOST_WORKS];
     private int workCount;
+    private final int[] costSteps = new int[MOST_CHOICES];
+    private final int[] yieldSteps = new int[MOST_CHOICES];
     private final Cases cases = new Cases();
     private int today;
     private final int[] traced = new int[MOST_TRACED];
@@ -332,9 +334,6 @@ public final class GradedHouses {
     }
 
     public int weight(int mark, int v) {
-        if (!within(mark, 0, MARKS - 1) || !within(v, 1, 9)) {
-            return BAD;
-        }
         return cases.weigh(mark, v);
     }
 
@@ -574,6 +573,7 @@ public final class GradedHouses {
         return n;
     }
 
+    /** Null with a fault: from the first one on, what is taken from the tape means nothing. */
     private Act readAct() {
         tape.takeWord("act");
         int day = tape.takeNumber(0, LAST_DAY);
@@ -588,7 +588,7 @@ public final class GradedHouses {
         }
         boolean needsLeave = tape.takeWord(END_WORDS) == 0;
         tape.takeSign();
-        return new Act(day, grade, sort, work, older, needsLeave);
+        return tape.fault != 0 ? null : new Act(day, grade, sort, work, older, needsLeave);
     }
 
     private int decidingAct(Part part, int work, int day) {
@@ -653,15 +653,39 @@ public final class GradedHouses {
         return Math.max(0, cost - grantFor(cost, grade) - worth);
     }
 
+    /**
+     * By how much the sums over a set are more than those over the set one number below it: its
+     * least member has come in, and all below that one have gone. So the steps hang on the least
+     * member alone, and going through all sets needs no sum of its own for each.
+     */
+    private void laySteps(Sheet pairs, int i, int n) {
+        int costs = 0;
+        int yields = 0;
+        for (int k = 0; k < n && k < MOST_CHOICES; k++) {
+            int cost = pairs.item(i + 2 * k);
+            int brings = pairs.item(i + 2 * k + 1);
+            costSteps[k] = cost - costs;
+            yieldSteps[k] = brings - yields;
+            costs += cost;
+            yields += brings;
+        }
+    }
+
+    private static int leastMember(int set) {
+        return Math.min(Integer.bitCount((set & -set) - 1), MOST_CHOICES - 1);
+    }
+
     /** Sets are tried by their numbers, so that of several as good ones the least stays. */
-    private static int worthiestSet(Sheet roofs, int i, int n, int fund) {
+    private int worthiestSet(Sheet roofs, int i, int n, int fund) {
+        laySteps(roofs, i, n);
         int cost = 0;
         int worth = 0;
         int best = 0;
         int bestWorth = 0;
         for (int set = 1; set < 1 << n; set++) {
-            cost += roofs.gain(set, i);
-            worth += roofs.gain(set, i + 1);
+            int least = leastMember(set);
+            cost += costSteps[least];
+            worth += yieldSteps[least];
             if (cost <= fund && worth > bestWorth) {
                 best = set;
                 bestWorth = worth;
@@ -670,14 +694,16 @@ public final class GradedHouses {
         return best;
     }
 
-    private static int cheapestSet(Sheet plans, int i, int n, int need) {
+    private int cheapestSet(Sheet plans, int i, int n, int need) {
+        laySteps(plans, i, n);
         int cost = 0;
         int brings = 0;
         int best = need == 0 ? 0 : NONE;
         int bestCost = 0;
         for (int set = 1; set < 1 << n; set++) {
-            cost += plans.gain(set, i);
-            brings += plans.gain(set, i + 1);
+            int least = leastMember(set);
+            cost += costSteps[least];
+            brings += yieldSteps[least];
             if (brings >= need && (best == NONE || cost < bestCost)) {
                 best = set;
                 bestCost = cost;
@@ -830,21 +856,6 @@ public final class GradedHouses {
                 }
             }
             return sum;
-        }
-
-        /**
-         * By how much sumOver(set) is more than sumOver(set - 1): the least member of the set has
-         * come in and all below it have gone. This spares a whole sum for each set tried.
-         */
-        private int gain(int set, int from) {
-            int gain = 0;
-            for (int k = 0; k < MOST_CHOICES; k++) {
-                if (holdsBit(set, k)) {
-                    return gain + item(from + 2 * k);
-                }
-                gain -= item(from + 2 * k);
-            }
-            return gain;
         }
 
         private boolean hasHeights() {
@@ -1135,7 +1146,7 @@ public final class GradedHouses {
         }
 
         private int weigh(int mark, int v) {
-            if (!within(mark, 0, MARKS - 1)) {
+            if (!within(mark, 0, MARKS - 1) || !within(v, 1, 9)) {
                 return BAD;
             }
             int before = weights[mark];

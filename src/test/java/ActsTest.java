@@ -68,6 +68,12 @@ public final class ActsTest {
         faulty(";", 0, 1);
         faulty(" actor", 1, 1);
         faulty("ac", 0, 1);
+        faulty("actz", 0, 1);
+        faulty("acta", 0, 1);
+        faulty("act{", 3, 1);
+        faulty("act`", 3, 1);
+        faulty("act 1/", 5, 1);
+        faulty("act 1:", 5, 1);
         faulty("act ", 4, 1);
         faulty("act act", 4, 1);
         faulty("act -1", 4, 1);

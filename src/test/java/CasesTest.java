@@ -102,6 +102,10 @@ public final class CasesTest {
         due.is("the later one is not there yet", x.binds(1, 19), 1);
         x.enter(1, 1, 15);
         due.is("the most", x.binds(1, 20), 1);
+        x.enter(2048, 0, 1);
+        x.enter(2048, 0, 2);
+        x.enter(2048, 1, 3);
+        due.is("the most, against the first", x.binds(2048, 3), 0);
         x.enter(3, 0, 15);
         x.enter(3, 0, 15);
         due.is("those farther off do not count", x.binds(1, 20), 1);

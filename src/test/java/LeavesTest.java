@@ -149,6 +149,8 @@ public final class LeavesTest {
         due.is("a ring of two", x.conditions(1, 3), 1);
         due.is("a ring of two, here too", x.conditions(2, 3), 1);
         due.is("no rows of it", x.conditions(2, 2), 0);
+        x.ahead(1, 0);
+        due.is("a ring with the least one", x.conditions(0, 3), 0);
     }
 
     private static void work() {
@@ -219,6 +221,18 @@ public final class LeavesTest {
         due.is("the last day", x.judged(2, 0), 1);
         x.work(0, 1, 61);
         due.is("PAST", x.judged(3, 0), 3);
+        for (int c = 0; c < 8; c++) {
+            x = withPart();
+            x.list(0, 3, 0, 0);
+            Due.read(x, "act 0 grade 3 any change needs;");
+            x.work(0, 1, 50);
+            x.leave(0, 1, 50, 50, 255);
+            for (int other = 0; other < 8; other++) {
+                due.is("not yet", x.judged(0, 0), 2);
+                x.prove(0, other, other == c ? 51 : 50);
+            }
+            due.is("one a day late", x.judged(0, 0), 2);
+        }
     }
 
     private static void putBack() {

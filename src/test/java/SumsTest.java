@@ -43,6 +43,8 @@ public final class SumsTest {
         due.is("from i on", x.fund(0, 2, 2, 10, 0), 2);
         due.is("at the end", x.fund(0, 6, 1, 500, 0), 0);
         due.is("at the end, one more", x.fund(0, 4, 2, 10, 1), 10);
+        Due.lay(x, 2, 1, 1);
+        due.is("worth of 1", x.fund(2, 0, 1, 1, 0), 1);
         int[] twelve = new int[26];
         for (int k = 0; k < 12; k++) {
             twelve[2 * k + 1] = 41;
@@ -184,6 +186,20 @@ public final class SumsTest {
         due.is("from a height", x.sight(1, 0, 0, 9, 9), 1);
         x.set(1, 55, 46);
         due.is("too high", x.sight(1, 0, 0, 9, 9), 0);
+        x.set(1, 99, 2);
+        due.is("but not for a higher end", x.sight(1, 0, 0, 9, 9), 1);
+        x.set(1, 55, 47);
+        due.is("too high for that", x.sight(1, 0, 0, 9, 9), 0);
+        x.sheet(1, 1, 100);
+        x.set(1, 81, 2);
+        due.is("2 of 1", x.sight(1, 1, 7, 1, 9), 0);
+        due.is("the eye is 2 above: 2 of 4/3", x.sight(1, 1, 9, 1, 6), 0);
+        x.set(1, 81, 1);
+        due.is("far down in y", x.sight(1, 1, 7, 1, 9), 1);
+        x.set(1, 70, 9);
+        due.is("what lies beyond is no bar", x.sight(1, 0, 9, 2, 8), 1);
+        x.set(1, 91, 9);
+        due.is("0, 9 to 2, 8 passes 1, 9", x.sight(1, 0, 9, 2, 8), 0);
     }
 
     private static void sightRefused() {
@@ -211,5 +227,8 @@ public final class SumsTest {
         due.is("101, anywhere", x.sight(0, 0, 0, 1, 1), BAD);
         x.set(0, 99, -1);
         due.is("-1, anywhere", x.sight(0, 0, 0, 1, 1), BAD);
+        x.set(0, 99, 0);
+        x.set(0, 0, 101);
+        due.is("101, at the first", x.sight(0, 4, 4, 1, 1), BAD);
     }
 }
