@@ -41,6 +41,7 @@ public final class SumsTest {
         due.is("0 and 2 ahead of 1 and 2", x.fund(0, 0, 4, 15, 0), 5);
         due.is("without what is worth nothing", x.fund(0, 0, 4, 500, 0), 7);
         due.is("from i on", x.fund(0, 2, 2, 10, 0), 2);
+        due.is("of the first two alone", x.fund(0, 0, 2, 500, 0), 3);
         due.is("at the end", x.fund(0, 6, 1, 500, 0), 0);
         due.is("at the end, one more", x.fund(0, 4, 2, 10, 1), 10);
         Due.lay(x, 2, 1, 1);
@@ -111,6 +112,7 @@ public final class SumsTest {
         due.is("nor has it a cost", x.use(0, 0, 4, 1201, 0, 0, 1), NONE);
         due.is("nor hardship", x.use(0, 0, 4, 1201, 0, 0, 2), NONE);
         due.is("from i on", x.use(0, 2, 2, 51, 0, 0, 0), 2);
+        due.is("of the first two alone", x.use(0, 0, 2, 101, 0, 0, 0), NONE);
         Due.lay(x, 1, 10, 5, 20, 10, 10, 5);
         due.is("1 ahead of 0 and 2", x.use(1, 0, 3, 10, 0, 0, 0), 2);
         int[] twelve = new int[24];
