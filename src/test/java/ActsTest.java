@@ -138,6 +138,9 @@ public final class ActsTest {
         x.part(0, 1, 1705, 5);
         due.is("no act", x.needs(0, 1, 99999, 0), 0);
         due.is("none says it", x.needs(0, 1, 99999, 1), NONE);
+        Due.read(x, "act 0 grade 2 any change needs; act");
+        due.is("nor does an act ahead of a fault", x.needs(0, 1, 0, 1), NONE);
+        due.is("nor is leave needed", x.needs(0, 1, 0, 0), 0);
         Due.read(x, "act 20 grade 2 wall change free;");
         Due.read(x, "act 10 grade 2 any change needs;");
         Due.read(x, "act 20 grade 2 any change older 11 needs;");
