@@ -126,6 +126,13 @@ final class LeaveBoundaries extends Boundaries {
         are("not between two of them", row(4, k -> x.conditions(k, 2)), "1 6720 1 1");
         x.ahead(4, 7);
         are("a ring", row(4, k -> x.conditions(k, 2)), "1 0 1 1");
+        anew();
+        housed(1, 1600);
+        x.leave(0, 0, 0, 0, 0b111);
+        x.ahead(1, 0);
+        x.ahead(2, 0);
+        is("all rules, two of them for one", x.conditions(0, 2), 2);
+        are("the first row then", row(3, k -> x.row(0, k)), "1 2 0");
     }
 
     private void bars() {

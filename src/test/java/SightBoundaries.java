@@ -69,6 +69,8 @@ final class SightBoundaries extends Boundaries {
         are("in x, down", bars(4, 1, 0, 0), "10 21 31");
         are("in y, down", bars(1, 4, 0, 0), "01 12 13");
         are("as far in both", bars(3, 0, 0, 3), "21 12");
+        are("in y, away from the edge", bars(4, 5, 5, 9), "46 57 58");
+        are("in x, away from the edge", bars(9, 5, 5, 4), "64 75 85");
     }
 
     private void placesThatTheLinePasses() {

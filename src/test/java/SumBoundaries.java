@@ -240,6 +240,8 @@ final class SumBoundaries extends Boundaries {
             is("their cost", x.use(lane, 1, 12, 1200, 0, 0, 1), 78);
             is("the last alone", x.use(lane, 23, 1, 100, 0, 0, 1), 12);
             is("one", x.use(lane, 1, 1, 100, 0, 0, 0), 1);
+            is("its cost, without GRANT and worth", x.use(lane, 23, 1, 100, 1, 5, 1), 12);
+            is("its set, whatever GRADE and worth", x.use(lane, 23, 1, 100, 1, 5, 0), 1);
         }
         promise(24, "HARDSHIP by GRADE and worth (2).");
         Due.lay(x, 0, 100, 100);
